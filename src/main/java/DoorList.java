@@ -1460,6 +1460,9 @@ public final class DoorList {
 
         /** Rows come by their number of CHANGES, then in their own order: only a cheaper one is better. */
         boolean byVoters(int most, boolean cheapest) {
+            if (aimsToWin && (hall.standing >> aimed & 1) == 0) {
+                return false;
+            }
             Arrays.fill(trial, 0);
             System.arraycopy(hall.in, 0, voters, 0, MOST_SORTS);
             for (int many = 0; many <= most && (cheapest || number == NONE); many++) {

@@ -274,6 +274,8 @@ public final class TextsTest {
         Check.given("in", d, d.sort(1, 0), 99);
         Check.given("out", d, d.sort(1, 1), 0);
         Check.given("the cost stays", d, d.sort(1, 2), 7);
+        Check.given("99 out", d, d.voters(0, 3, 99));
+        Check.given("out", d, d.sort(0, 1), 99);
         Check.refused("voters(2)", d, d.voters(2, 100, 0), 2);
         Check.refused("100 in", d, d.voters(0, 100, 0), 5);
         Check.refused("100 out", d, d.voters(0, 0, 100), 5);

@@ -126,6 +126,18 @@ public final class ActsTest {
         Check.acts(e, "up c; when zed; spend 999; end;");
         Check.given("act", e, e.act(), 2);
         acted(e, "a spend that is not come to", 0, 0, 0, 0);
+        Check.acts(e, "up c;");
+        e.act();
+        acted(e, "without spend all is free again", 1, 4, 0, 0);
+        Check.fault("a loop without end", e, Check.acts(e, "spend 1; loop 2; up c;"), 2, 22);
+        Check.given("and then a text without loops", e, Check.acts(e, "down c;"), 1);
+        Check.fault("no end without a loop", e, Check.acts(e, "end;"), 2, 0);
+        e.act();
+        acted(e, "free still", 1, 4, 0, 0);
+        DoorList g = Check.open("name a;name b;name c;name d;name e;name f;name g;name h off;sort 1 order h a b c d e f g;");
+        Check.acts(g, "up h; when h; down a; end;");
+        Check.given("the eighth name", g, g.act(), 3);
+        Check.given("stands", g, g.many(4), 254);
         DoorList f = Check.open("name a cost 0; sort 3 cost 0 order a;");
         Check.acts(f, "spend 0; down a; out 0 9;");
         f.act();

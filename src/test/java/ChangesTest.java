@@ -50,6 +50,13 @@ public final class ChangesTest {
                 + "sort 1 order c a x b; sort 3 order a x b c; sort 4 order x a b c;");
         namesFound(i, "x by one change", i.names(1, true, 3, false), 1, 9, 1);
         namesFound(i, "x cheaper, by two", i.names(1, true, 3, true), 2, 2, 12);
+        // the same with the dear way behind the cheap one, and as dear as it
+        for (int cost = 2; cost <= 9; cost += 7) {
+            DoorList k = Check.open("name b off; name c off; name x; name a cost " + cost + "; sort 1 order b a x c; "
+                    + "sort 1 order c a x b; sort 3 order a x b c; sort 4 order x a b c; ties a x b c;");
+            namesFound(k, "x by one change", k.names(2, true, 3, false), 1, cost, 8);
+            namesFound(k, "x cheapest", k.names(2, true, 3, true), cost == 2 ? 1 : 2, 2, cost == 2 ? 8 : 3);
+        }
         DoorList h = Check.open("name a cost 9; name b cost 2; name c cost 2; "
                 + "sort 4 order a b c; sort 3 order b c a; sort 2 order c b a;");
         namesFound(h, "c: fewest", h.names(2, true, 2, false), 1, 2, 2);
@@ -130,6 +137,11 @@ public final class ChangesTest {
         DoorList e = Check.open(text.toString());
         Check.refused("12 sorts may be searched", e, e.people(1, true, 12, 3, false), 9);
         Check.given("and asked for safety", e, e.safe(4), 5);
+        DoorList g = Check.open(text.toString().replaceFirst("order a b;$", "order b a;"), "runs;");
+        for (int i = 0; i < 11; i++) {
+            g.voters(i, i == 0 ? 2 : 0, 0);
+        }
+        peopleFound(g, "b by the twelfth sort", g.people(1, true, 12, 2, true), 2, 2, 0, 0, 0, 0, 0, 0, 0, 0, 0, 0, 0, 2);
         DoorList f = Check.open(text + " sort 1 order b a;");
         Check.refused("13 not", f, f.people(1, true, 12, 3, false), 7);
         Check.refused("5 is ahead of 7", f, f.people(1, true, 12, 6, false), 5);

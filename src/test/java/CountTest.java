@@ -100,6 +100,16 @@ public final class CountTest {
         // bar leaves a and b; then votes go to these alone: b has 8 of 13
         leftBehind(FOUR, "bar 30; first;", 15, 3, 2);
         leftBehind(FOUR, "near 3; bar 50; pairs; runs;", 15, 12, 4, 4, 4);
+        leftBehind(FOUR, "points 0; bar 0; near 8; points 0 0 0 1;", 15, 15, 15, 15, 1);
+        leftBehind(FOUR, "points 0; bar 0; near 8; pairs;", 15, 15, 15, 15, 4);
+        leftBehind(FOUR, "points 0; bar 0; near 8; bar 30;", 15, 15, 15, 15, 3);
+        String eight = "name a;name b;name c;name d;name e;name f;name g;name h;";
+        leftBehind(eight + "sort 1 order a b c d e f g h;", "near 8; points 0 0 0 0 0 0 0 5;", 255, 255, 128);
+        leftBehind(eight + "sort 1 order a b c d e f g h;", "near 7;points 0;bar 0;points 0 0 0 0 0 0 1;", 255, 127,
+                127, 127, 64);
+        DoorList e = Check.open(FOUR, "runs; pairs; runs; pairs;");
+        Check.rule(e, "bar 5; first; points 1; near 1;");
+        Check.given("nothing is left of the rule ahead", e, e.wins(), 0);
         DoorList d = Check.open(FOUR, "bar 30; first;");
         Check.refused("left(3)", d, d.left(3), 5);
         Check.refused("left(-1)", d, d.left(-1), 5);

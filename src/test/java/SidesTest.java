@@ -111,6 +111,13 @@ public final class SidesTest {
         Check.given("d for the one, b for the other", d, d.game(0, 8, 2, 1), 1);
         Check.given("d is put up first", d, d.opening(), 3);
         Check.given("nothing is changed", d, d.many(4), 3);
+        // a wins alone, beside x, beside both: but not beside y, and x is not the one's to move
+        DoorList f = Check.open("name a; name x off; name y off; sort 2 order x y a; sort 2 order y a x; "
+                + "sort 3 order a y x;");
+        for (int turns = 1; turns <= 3; turns++) {
+            Check.given("only the other one moves", f, f.game(0, 0, 6, turns), 0);
+            Check.given("x for the one", f, f.game(0, 2, 4, turns), 1);
+        }
         DoorList e = Check.open("name a; name b off; name c off; sort 2 order b a c; sort 1 order c a b;");
         Check.given("b needs one move", e, e.game(1, 6, 0, 1), 1);
         Check.given("b is put up", e, e.opening(), 1);
@@ -162,6 +169,14 @@ public final class SidesTest {
             e.write(0, i, 8);
         }
         Check.fraction("twelve coins", e, e.doubt(0, 0), 4095, 4096);
+        e.voters(11, 0, 0);
+        e.voters(19, 1, 0);
+        e.write(0, 19, 4);
+        for (int i = 1; i < 11; i++) {
+            e.write(0, i, 0);
+        }
+        // b wins if the last sort votes, or none does
+        Check.fraction("the last sort counts", e, e.doubt(0, 0), 3, 8);
     }
 
     private static void doubtRefuses() {

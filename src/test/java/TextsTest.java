@@ -55,6 +55,15 @@ public final class TextsTest {
         Check.given("099 is 99", d, d.sort(1, 0), 99);
         Check.given("cost 0 and 99", d, Check.hall(d, "name a cost 0; name b off cost 99;"), 2);
         Check.given("cost 0", d, d.name(0, 1), 0);
+        String sorts = "name a; sort 1 out 5 cost 7 order a;";
+        Check.given("out and cost", d, Check.hall(d, sorts), 1);
+        Check.given("without", d, Check.hall(d, "name a; sort 1 order a;"), 1);
+        Check.given("nothing is left of the text ahead: out", d, d.sort(0, 1), 0);
+        Check.given("nor the cost", d, d.sort(0, 2), 1);
+        Check.given("nor ties", d, Check.hall(d, "name a; name b; ties b a;"), 2);
+        Check.given("as numbered", d, Check.hall(d, "name a; name b;"), 2);
+        Check.given("as numbered", d, d.name(0, 2), 0);
+        Check.given("costs", d, Check.hall(d, "name a cost 0; name b off cost 99;"), 2);
         Check.given("cost 99", d, d.name(1, 1), 99);
     }
 
@@ -156,6 +165,18 @@ public final class TextsTest {
         int end = text.length();
         Check.fault("a 21st", d, Check.hall(d, text + "sort !"), 6, end);
         Check.given("all there still", d, d.many(1), 20);
+        String eight = "name a;name b;name c;name d;name e;name f;name g;name h;";
+        String full = eight + "sort 1order a b c d e f g h;".repeat(19) + "sort 99out 99cost 99order h g f e d c b a;";
+        Check.given("8 names, 20 sorts", d, Check.hall(d, full), 8);
+        for (int what = 0; what < 2; what++) {
+            Check.given("the last sort " + what, d, d.sort(19, what), 99);
+        }
+        Check.given("its cost", d, d.sort(19, 2), 99);
+        for (int place = 0; place < 8; place++) {
+            Check.given("its order", d, d.order(19, place), 7 - place);
+        }
+        Check.given("the last names by pairs", d, d.beats(7, 0), 80);
+        Check.given("the last of all", d, d.beats(0, 1), -80);
     }
 
     private static void ruleIsTaken() {

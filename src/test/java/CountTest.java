@@ -107,6 +107,8 @@ public final class CountTest {
         leftBehind(eight + "sort 1 order a b c d e f g h;", "near 8; points 0 0 0 0 0 0 0 5;", 255, 255, 128);
         leftBehind(eight + "sort 1 order a b c d e f g h;", "near 7;points 0;bar 0;points 0 0 0 0 0 0 1;", 255, 127,
                 127, 127, 64);
+        leftBehind(eight + "sort 1 order a b c d e f g h;", "bar 0;bar 0;bar 0;points 0 0 0 0 0 0 0 9;", 255, 255,
+                255, 255, 128);
         DoorList e = Check.open(FOUR, "runs; pairs; runs; pairs;");
         Check.rule(e, "bar 5; first; points 1; near 1;");
         Check.given("nothing is left of the rule ahead", e, e.wins(), 0);

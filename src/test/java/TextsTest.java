@@ -166,17 +166,17 @@ public final class TextsTest {
         Check.fault("a 21st", d, Check.hall(d, text + "sort !"), 6, end);
         Check.given("all there still", d, d.many(1), 20);
         String eight = "name a;name b;name c;name d;name e;name f;name g;name h;";
-        String full = eight + "sort 1order a b c d e f g h;".repeat(19) + "sort 99out 99cost 99order h g f e d c b a;";
+        String full = eight + "sort 1order a b c d e f g h;".repeat(19) + "sort 99out 99cost 99order a h g f e d c b;";
         Check.given("8 names, 20 sorts", d, Check.hall(d, full), 8);
         for (int what = 0; what < 2; what++) {
             Check.given("the last sort " + what, d, d.sort(19, what), 99);
         }
         Check.given("its cost", d, d.sort(19, 2), 99);
         for (int place = 0; place < 8; place++) {
-            Check.given("its order", d, d.order(19, place), 7 - place);
+            Check.given("its order", d, d.order(19, place), (8 - place) % 8);
         }
-        Check.given("the last names by pairs", d, d.beats(7, 0), 80);
-        Check.given("the last of all", d, d.beats(0, 1), -80);
+        Check.given("the last names by pairs", d, d.beats(7, 1), 80);
+        Check.given("the first ahead of the last", d, d.beats(0, 7), 118);
     }
 
     private static void ruleIsTaken() {

@@ -313,6 +313,10 @@ public final class ActsBoundsTest {
         faulty("end;", 2, 0);
         faulty("up a; end;", 2, 6);
         faulty("loop 2; end; end;", 2, 13);
+        DoorList d = Check.open(HALL);
+        Check.fault("three beginnings without ends", d, Check.acts(d, "loop 1; loop 1; loop 1;"), 2, 23);
+        Check.fault("no beginning in this text", d, Check.acts(d, "end;"), 2, 0);
+        Check.given("none is open still", d, Check.acts(d, "loop 1; loop 1; loop 1; end; end; end;"), 3);
         faulty("loop 2;", 2, 7);
         faulty("loop 2; up a;  ", 2, 15);
         faulty("when a; until b; end;", 2, 21);
@@ -419,6 +423,9 @@ public final class ActsBoundsTest {
         Check.given("200 of many", d, d.act(), 200);
         Check.given("a STEP was left", d, d.acted(3), 1);
         Check.given("again", d, d.act(), 200);
+        Check.acts(d, "up a;");
+        Check.given("one", d, d.act(), 1);
+        Check.given("none was left", d, d.acted(3), 0);
         d = taken(nine + nine + "loop 8; spend 1; end; until zed; spend 1; end;", 10);
         done("an until that goes on", d, 200, 0, 0, 178);
         Check.given("a STEP was left", d, d.acted(3), 1);

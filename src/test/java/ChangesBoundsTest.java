@@ -57,6 +57,12 @@ public final class ChangesBoundsTest {
         Check.refused("c by 2: down", d, d.names(2, true, 2, false), 9);
         setIs("b by 2: down", d, d.names(1, true, 2, false), 1, 1, 1);
         Check.refused("b by 1: up", d, d.names(1, true, 1, false), 9);
+        DoorList e = Check.open("name z off; name y; name x off; sort 1 order z x y;");
+        Check.refused("z can't be put up by 2", e, e.names(0, true, 2, false), 9);
+        Check.refused("x can't be put up by 2", e, e.names(2, true, 2, true), 9);
+        setIs("y can't be taken down by 1", e, e.names(1, false, 1, false), 1, 1, 1);
+        e.stand(0, true);
+        Check.refused("z can't be taken down by 1", e, e.names(1, true, 1, false), 9);
         rowIs("b by 4: in", d, d.people(1, true, 4, 5, false), 2, 2, 0, 2);
         rowIs("b by 8: out", d, d.people(1, true, 8, 5, false), 2, 2, -2, 0);
         rowIs("b by 12", d, d.people(1, true, 12, 5, false), 2, 2, 0, 2);
@@ -107,6 +113,11 @@ public final class ChangesBoundsTest {
                 + "sort 3 order c x a b; ties a b c x;");
         setIs("a or b or c is down: the least is a", d, d.names(3, true, 2, false), 2, 2, 3);
         setIs("cheapest likewise", d, d.names(3, true, 2, true), 2, 2, 3);
+        // the cheap way of two is a lesser number than the dear way of one
+        DoorList e = Check.open("name b off; name c off; name x; name a cost 9; sort 1 order b a x c; sort 1 order c a x b; "
+                + "sort 3 order a x b c; sort 4 order x a b c; ties a x b c;");
+        setIs("x by one", e, e.names(2, true, 3, false), 1, 9, 8);
+        setIs("x cheapest, by two", e, e.names(2, true, 3, true), 2, 2, 3);
         d = Check.open("name a cost 2; name b; name c; name x; sort 3 order a x b c; sort 3 order b x a c; "
                 + "sort 3 order c x a b; ties a b c x;");
         setIs("b and c are cheaper", d, d.names(3, true, 2, false), 2, 2, 6);
@@ -244,6 +255,19 @@ public final class ChangesBoundsTest {
         d.voters(0, 5, 0);
         d.voters(3, 6, 0);
         Check.given("a has 7, b 6; with c 6 : 6, with both 5 : 6", d, d.safe(1), 1);
+        // the fewest count, not the cheapest: a itself for 9, or b and c for nothing; one voter for 9, or two for nothing
+        DoorList e = Check.open("name x; name a cost 9; name b off cost 0; name c off cost 0; sort 1 order b a x c; "
+                + "sort 1 order c a x b; sort 3 order a x b c; sort 4 order x a b c; ties a x b c;");
+        Check.given("a", e, e.wins(), 1);
+        Check.given("safe by names", e, e.safe(3), 0);
+        setIs("not a, cheapest", e, e.names(1, false, 3, true), 2, 0, 12);
+        DoorList f = Check.open("name a; name b; sort 3 cost 9 order a b; sort 2 order b a; sort 0 out 9 cost 0 order b a; "
+                + "ties a b;", "points 2;");
+        Check.given("safe by voters", f, f.safe(12), 1);
+        f = Check.open("name a; name b; name c; sort 2 cost 9 order a b c; sort 2 order b a c; sort 0 out 1 order a b c; "
+                + "sort 0 out 9 cost 0 order c a b; ties a b c;");
+        Check.given("one out for 9", f, f.safe(12), 0);
+        rowIs("not a, cheapest: three in for nothing", f, f.people(0, false, 12, 5, true), 3, 0, 0, 0, 0, 3);
     }
 
     private static void safeIfThereAreNone() {

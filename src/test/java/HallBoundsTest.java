@@ -31,6 +31,7 @@ public final class HallBoundsTest {
         faultSeven();
         faultEight();
         placeOfAnother();
+        nothingOfALarger();
         fault();
         many();
         name();
@@ -213,8 +214,21 @@ public final class HallBoundsTest {
             faulty("name a; ties " + key + ";", 2, 13);
             faulty("name a; ties a " + key + ";", 2, 15);
             taken("name " + key + "s; name x" + key + ";", 2, 0);
+            for (int i = 0; i < key.length(); i++) {
+                String other = key.substring(0, i) + "z" + key.substring(i + 1);
+                taken("name " + other + ";", 1, 0);
+                faulty(other + " a;", 2, 0);
+            }
             taken("name " + key.substring(1) + "; name " + key.substring(0, key.length() - 1) + ";", 2, 0);
         }
+        // WORDS that are alike in part, or as numbers, are others
+        String[] words = {"a", "q", "aq", "qa", "aa", "ba", "ab", "aab"};
+        StringBuilder text = new StringBuilder();
+        for (String word : words) {
+            text.append("name ").append(word).append(';');
+        }
+        taken(text + "ties aab ab ba aa qa aq q a;", 8, 0);
+        taken("name zzzzzzzz; name azzzzzzz; name zzzzzzza; name zzzzzzz; name aaaaaaaz; name aaaaaaza;", 6, 0);
         // key words of the RULE and the ACTS are told there, not here
         taken("name first; name points; name runs; name pairs; name near; name bar; name up; name end;", 8, 0);
     }
@@ -375,6 +389,17 @@ public final class HallBoundsTest {
             Check.feedText(d, whole);
             Check.given("the first " + n, d, d.hall(n), 1);
         }
+        // bytes of the tape behind the first n are none of the text, though a TOKEN would go on there
+        String cut = "name a cost 123;name bee;";
+        int[][] rows = {{13, 2, 13}, {14, 2, 14}, {15, 4, 12}, {22, 2, 22}, {23, 2, 23}};
+        for (int[] row : rows) {
+            DoorList d = new DoorList();
+            Check.feedText(d, row[0] < 16 ? cut : cut.replace("123", "12 "));
+            Check.fault("the first " + row[0], d, d.hall(row[0]), row[1], row[2]);
+        }
+        DoorList e = new DoorList();
+        Check.feedText(e, "name a cost 1234;");
+        Check.fault("three of four digits", e, e.hall(15), 4, 12);
         faulty("name a;  \n name b  ", 2, 19);
         faulty("name a; name", 2, 12);
     }
@@ -476,6 +501,73 @@ public final class HallBoundsTest {
         Check.given("none stands", d, d.many(4), 0);
         Check.given("the rule stays", d, d.many(3), 1);
         Check.refused("none wins", d, d.wins(), 8);
+    }
+
+    /** Of a larger HALL ahead nothing is left that could be counted. */
+    private static void nothingOfALarger() {
+        String larger = EIGHT + "sort 9 out 9 cost 2 order h g f e d c b a;".repeat(12) + "ties h g f e d c b a;";
+        String[] smaller = {"name a; name b; name c off; sort 3 out 1 order a b c; sort 2 order b c a;", "name a; name b;",
+            "name a off; name b; name c; sort 1 order c b a; sort 0 out 2 order a b c; sort 2 out 3 order b a c; ties b c a;"};
+        String[] rules = {"first;", "runs;", "pairs; near 1;", "bar 34; points 0 1;"};
+        for (String text : smaller) {
+            for (String rule : rules) {
+                DoorList behind = Check.open(larger, rule);
+                behind.parted(5);
+                behind.safe(1);
+                Check.hall(behind, text);
+                DoorList alone = Check.open(text, rule);
+                answersAlike(rule + " in " + text, behind, alone);
+            }
+        }
+    }
+
+    private static void answersAlike(String what, DoorList behind, DoorList alone) {
+        long[] got = answers(behind);
+        long[] want = answers(alone);
+        for (int i = 0; i < want.length; i++) {
+            Check.due("answer " + i + " of " + what, got[i], want[i]);
+        }
+    }
+
+    private static long[] answers(DoorList d) {
+        d.tray(0, 0, 20);
+        for (int i = 0; i < 20; i++) {
+            d.write(0, i, i % 17);
+        }
+        long[] all = new long[200];
+        int n = 0;
+        for (int name = 0; name < 3; name++) {
+            all[n++] = d.firsts(name);
+            all[n++] = d.beats(name, (name + 1) % 3);
+            all[n++] = d.alike(name, (name + 1) % 3);
+            all[n++] = d.parting(name);
+            all[n++] = d.game(name, 1, 6, 2);
+            for (int kinds = 1; kinds <= 3; kinds++) {
+                all[n++] = d.names(name, true, kinds, true);
+                all[n++] = d.found(0);
+                all[n++] = d.names(name, false, kinds, false);
+                all[n++] = d.found(1);
+            }
+            for (int kinds = 4; kinds <= 12; kinds += 4) {
+                all[n++] = d.people(name, true, kinds, 5, true);
+                all[n++] = d.found(0);
+                all[n++] = d.people(name, false, kinds, 5, false);
+                all[n++] = d.moved(0);
+            }
+            for (int many = 0; many <= 3; many++) {
+                all[n++] = d.seldom(name, many) ? d.top() * 1000 + d.bottom() : -1;
+            }
+            all[n++] = d.doubt(0, name) ? d.top() : -1;
+            all[n++] = d.bottom();
+        }
+        all[n++] = d.wins();
+        all[n++] = d.cousins();
+        all[n++] = d.parted(1);
+        all[n++] = d.safe(3);
+        all[n++] = d.safe(12);
+        all[n++] = d.many(2);
+        all[n++] = d.left(1);
+        return all;
     }
 
     private static void fault() {

@@ -100,6 +100,17 @@ public final class RuleBoundsTest {
         Check.refused("the rest is gone", d, d.rule(1), 5);
         Check.feedText(d, "pairs;near 2;!!!!!!!");
         Check.given("the first 13 bytes", d, d.rule(13), 2);
+        // nothing of a RULE ahead is in the next one
+        d = Check.open("name a; name b; name c; sort 3 order a b c; sort 2 order b c a; sort 2 order c b a;");
+        for (String ahead : new String[] {"runs; runs; runs; runs;", "pairs;", "bar 99;", "points 0 9 9;", "near 3;"}) {
+            Check.rule(d, ahead);
+            Check.rule(d, "first;");
+            Check.given("first behind " + ahead, d, d.left(1), 1);
+            Check.rule(d, ahead);
+            Check.rule(d, "points 0 1;");
+            Check.given("points behind " + ahead, d, d.left(1), 2);
+        }
+        d = Check.open("name a; name b; sort 2 order b a;", "pairs;near 2;");
         Check.given("0 of an empty tape", d, d.rule(0), 0);
         Check.given("no clauses", d, d.many(3), 0);
         Check.given("the hall stays", d, d.many(0), 2);
@@ -289,6 +300,9 @@ public final class RuleBoundsTest {
         leftBy(hall + "ties c a d b;", "runs;", 15, 4);
         String empty = "name a; name b; name c; sort 0 order a b c; ties b c a;";
         leftBy(empty, "runs;", 7, 2);
+        // of eight seven are out, one behind the other
+        leftBy(EIGHT, "runs;", 255, 1);
+        leftBy(EIGHT + "ties h g f e d c b a;", "runs;", 255, 128);
     }
 
     private static void pairs() {
@@ -302,6 +316,10 @@ public final class RuleBoundsTest {
         leftBy("name a; name b; name c; sort 1 order a b c; sort 1 order b c a; sort 1 order c a b;", "pairs;", 7, 7);
         leftBy("name a; name b; name c; sort 0 order a b c;", "pairs;", 7, 7);
         leftBy("name a; name b off; sort 1 order b a;", "pairs;", 1, 1);
+        // one that does not stand is passed over, though it beats each other one; the last one may be it
+        leftBy("name a; name b off; name c; sort 1 order b c a;", "pairs;", 5, 4);
+        leftBy("name a off; name b; name c; sort 1 order a b c;", "pairs;", 6, 2);
+        leftBy(EIGHT + "sort 1 order h a b c d e f g;", "pairs;", 255, 128);
         // only those LEFT are asked: c, who beats all, is taken away by the clause ahead
         leftBy("name a; name b; name c; sort 3 order a c b; sort 3 order b c a; sort 1 order a b c;", "first; pairs;", 7, 1, 1);
     }
@@ -339,6 +357,7 @@ public final class RuleBoundsTest {
         leftBy("name a; name b; sort 99 order a b; sort 1 order b a;", "bar 99;", 3, 1);
         leftBy("name a; name b; sort 98 order a b; sort 2 order b a;", "bar 99;", 3, 3);
         leftBy("name a; name b; sort 0 order a b;", "bar 99;", 3, 3);
+        leftBy(EIGHT + "sort 1 order a b c d e f g h; sort 1 order h b c d e f g a;", "bar 50;", 255, 129);
     }
 
     private static void wins() {

@@ -150,6 +150,8 @@ public final class SidesBoundsTest {
             e.stand(name, false);
         }
         Check.refused("none wins", e, e.cousins(), 8);
+        e = Check.open("name x off; name a; name b; sort 2 order x a b; sort 1 order a x b; sort 2 order b x a; ties a b x;");
+        Check.given("NAME 0 takes two, b and it have two each: b is ahead", e, e.cousins(), 1);
         DoorList f = new DoorList();
         Check.refused("no hall", f, f.cousins(), 8);
     }
@@ -237,6 +239,24 @@ public final class SidesBoundsTest {
             for (int turns : new int[] {0, 4, -1, MIN, MAX}) {
                 Check.refused(turns + " turns", d, d.game(4, 15, 0, turns), 5);
             }
+        }
+        // the other one needs as many turns as there are to put up
+        DoorList e = Check.open("name a; name x off; name y off; name z off; sort 3 order a x y z; sort 3 order x a y z; "
+                + "sort 2 order y a x z; sort 2 order z a x y; ties x a y z;");
+        // a has 10; with x 7 : 3; with x and y 5 : 3; with all three 3 : 3, and x is ahead
+        for (int turns = 1; turns <= 3; turns++) {
+            Check.given("all three in " + turns, e, e.game(0, 0, 14, turns), turns < 3 ? 1 : 0);
+        }
+        // from a hall where none stands; what an earlier game came to is forgotten
+        DoorList f = Check.open("name a off; name b off; sort 1 order a b;");
+        for (int time = 0; time < 2; time++) {
+            Check.given("a is put up", f, f.game(0, 1, 0, 1), 1);
+            Check.given("at once", f, f.opening(), 0);
+            Check.given("a is put up, of two turns", f, f.game(0, 1, 0, 2), 1);
+            Check.given("later", f, f.opening(), -1);
+            Check.given("nobody puts it up", f, f.game(0, 0, 0, 3), 0);
+            Check.given("the other one does not", f, f.game(0, 2, 1, 3), 0);
+            Check.given("b may be put up, a too", f, f.game(1, 2, 1, 3), 0);
         }
         // the one comes first, the other one has the last word
         DoorList d = Check.open("name a off; name b; sort 1 order a b;");
@@ -407,6 +427,10 @@ public final class SidesBoundsTest {
             chanceIs("b, struck " + many, d, d.seldom(1, many), choose(24, many).subtract(good), choose(24, many));
         }
         Check.given("nothing is changed", d, d.many(2), 24);
+        d.voters(0, 13, 0);
+        Check.fraction("as many as are in now", d, d.seldom(0, 0), 1, 1);
+        d.voters(1, 14, 0);
+        Check.fraction("as many as are in now", d, d.seldom(0, 0), 0, 1);
         d.stand(0, false);
         Check.fraction("one that does not stand", d, d.seldom(0, 3), 0, 1);
         Check.fraction("b alone", d, d.seldom(1, 3), 1, 1);

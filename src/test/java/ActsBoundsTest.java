@@ -199,6 +199,11 @@ public final class ActsBoundsTest {
         }
         DoorList d = taken("in 2 5; out 19 5;", 2);
         done("no such sorts there", d, 2, 0, 0, 0);
+        // nor are those of a larger HALL ahead
+        d = Check.open("name a;" + "sort 5 out 5 order a;".repeat(20));
+        Check.hall(d, HALL);
+        Check.acts(d, "in 2 5; out 2 5; in 3 1; out 19 1;");
+        done("sorts of the hall ahead", d, 4, 0, 0, 0);
         d = Check.open("name a;" + "sort 99 out 99 order a;".repeat(20));
         Check.acts(d, "in 19 99; in 19 1; out 0 99; out 0 1;");
         done("the first and the last", d, 4, 198, 198, 0);

@@ -228,6 +228,11 @@ public final class HallBoundsTest {
             text.append("name ").append(word).append(';');
         }
         taken(text + "ties aab ab ba aa qa aq q a;", 8, 0);
+        for (char one = 'a'; one <= 'z'; one++) {
+            for (char other = 'a'; other < one; other++) {
+                taken("name " + one + "x; name " + other + "x; name x" + one + "y; name x" + other + "y;", 4, 0);
+            }
+        }
         taken("name zzzzzzzz; name azzzzzzz; name zzzzzzza; name zzzzzzz; name aaaaaaaz; name aaaaaaza;", 6, 0);
         // key words of the RULE and the ACTS are told there, not here
         taken("name first; name points; name runs; name pairs; name near; name bar; name up; name end;", 8, 0);

@@ -66,6 +66,7 @@ public final class FaceTest {
     }
 
     private static void face() throws Exception {
+        Set<String> told = toldFace();
         Check.due("public and final", DoorList.class.getModifiers(), Modifier.PUBLIC | Modifier.FINAL);
         Set<String> want = new TreeSet<>(Arrays.asList(FACE.strip().split("\n")));
         Set<String> got = new TreeSet<>();
@@ -80,6 +81,7 @@ public final class FaceTest {
             System.out.println("the face is " + got);
         }
         Check.due("the face's methods", got.equals(want), true);
+        Check.due("the document's face: " + told, told.equals(want), true);
         Constructor<?>[] made = DoorList.class.getDeclaredConstructors();
         Check.due("constructors", made.length, 1);
         Check.due("its modifiers", made[0].getModifiers(), Modifier.PUBLIC);
@@ -87,6 +89,22 @@ public final class FaceTest {
         Field none = DoorList.class.getDeclaredField("NONE");
         Check.due("NONE", none.getInt(null), -1);
         Check.due("NONE's modifiers", none.getModifiers(), Modifier.PUBLIC | Modifier.STATIC | Modifier.FINAL);
+    }
+
+    /** The methods that the document's face tells, by their types. */
+    private static Set<String> toldFace() {
+        Set<String> told = new TreeSet<>();
+        int from = Doc.text().indexOf("public final class DoorList {");
+        int to = Doc.text().indexOf("```", Math.max(from, 0));
+        Check.due("the document has a face", from >= 0 && to > from, true);
+        if (from < 0 || to < from) {
+            return told;
+        }
+        Matcher m = Pattern.compile("public (\\w+ \\w+)\\(([^)]*)\\);").matcher(Doc.text().substring(from, to));
+        while (m.find()) {
+            told.add(m.group(1) + "(" + m.group(2).replaceAll("(\\w+) \\w+", "$1") + ")");
+        }
+        return told;
     }
 
     private static void hidden() {
